@@ -501,6 +501,13 @@ public final class DigitMill {
             Arrays.fill(limbs, 0, size, 0);
         }
 
+        /** The limb above the highest is read, and lent from, in a long division. */
+        void openTop() {
+            if (size < limbs.length) {
+                limbs[size] = 0;
+            }
+        }
+
         void append(int limb) {
             if (limb != 0 && size < limbs.length) {
                 limbs[size] = limb;
@@ -654,7 +661,7 @@ public final class DigitMill {
             left.lift(shift);
             right.lift(shift);
             int highest = left.size - right.size;
-            left.limbs[left.size] = 0;
+            left.openTop();
             result.zero(highest + 1);
             for (int at = highest; at >= 0; at--) {
                 result.limbs[at] = quotientLimb(at);
