@@ -535,6 +535,14 @@ public final class DigitMill {
         private int digits;
         private boolean told;
 
+        /** 0 is told at once, so that no power or group is ever missing. */
+        Text() {
+            setPowers();
+            groupsUsed = 1;
+            digits = 1;
+            told = true;
+        }
+
         void replace(Whole newWhole, int newBase) {
             whole.copy(newWhole);
             changeBase(newBase);
