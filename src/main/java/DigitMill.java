@@ -611,8 +611,10 @@ public final class DigitMill {
         int sumOfDigits() {
             int sum = 0;
             for (int i = 0; i < groupsUsed; i++) {
-                for (int rest = groups[i]; rest > 0; rest /= base) {
+                int rest = groups[i];
+                for (int place = 0; place < perGroup; place++) {
                     sum += rest % base;
+                    rest /= base;
                 }
             }
             return sum;
